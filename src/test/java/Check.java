@@ -1,13 +1,37 @@
+import java.util.Set;
+import java.util.TreeSet;
+
 /** Counts what the tests find, and ends their run. */
 final class Check {
     interface Call {
         Object run();
     }
 
+    private static final Set<String> NAMES = new TreeSet<>();
     private static int passed = 0;
     private static int failed = 0;
+    private static String current = "";
 
     private Check() {
+    }
+
+    /** Runs a test that has a name of its own; what it lets out fails it, and the next ones run. */
+    static void test(String name, Runnable body) {
+        current = name + ": ";
+        isTrue("no other test has its name", NAMES.add(name));
+        int before = passed + failed;
+        try {
+            body.run();
+            isTrue("it checks something", passed + failed > before);
+        } catch (RuntimeException e) {
+            isTrue("it lets out " + e, false);
+        }
+        current = "";
+    }
+
+    /** The number of tests whose names begin in this way. */
+    static long countTests(String beginning) {
+        return NAMES.stream().filter(name -> name.startsWith(beginning)).count();
     }
 
     static void equal(String what, Object got, Object due) {
@@ -15,7 +39,7 @@ final class Check {
             passed++;
         } else {
             failed++;
-            System.out.println(what + ": got " + got + ", due is " + due);
+            System.out.println(current + what + ": got " + got + ", due is " + due);
         }
     }
 

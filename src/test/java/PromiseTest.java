@@ -1,7 +1,6 @@
 import java.util.ArrayList;
 import java.util.Arrays;
 import java.util.List;
-import java.util.function.IntUnaryOperator;
 import java.util.function.ToLongFunction;
 
 /** One test for each promise of the document: ordinary inputs, edges and wrong inputs. */
@@ -59,81 +58,6 @@ public final class PromiseTest {
 
     // ---- tools
 
-    private static void type(RaggedColumns x, String characters) {
-        for (char c : characters.toCharArray()) {
-            x.append(c);
-        }
-    }
-
-    private static RaggedColumns typed(String characters) {
-        RaggedColumns x = new RaggedColumns();
-        type(x, characters);
-        return x;
-    }
-
-    /** An object with the words of an input text of any length. */
-    private static RaggedColumns text(String inputText) {
-        RaggedColumns x = new RaggedColumns();
-        for (String word : inputText.split(",")) {
-            if (x.firstError() > 0 && x.append(',') + word.length() > 59) {
-                throw new AssertionError("a text too long for one buffer");
-            }
-            type(x, word);
-        }
-        x.load();
-        return x;
-    }
-
-    private static RaggedColumns text(int column, int space, String inputText) {
-        RaggedColumns x = text(inputText);
-        x.setColumn(column);
-        x.setSpace(space);
-        return x;
-    }
-
-    private static RaggedColumns fullText(int width) {
-        RaggedColumns x = new RaggedColumns();
-        for (int word = 0; word < 40; word++) {
-            x.insert(word, width);
-        }
-        return x;
-    }
-
-    /** A text of paragraphs with the given numbers of lines, each line one word of width 30. */
-    private static RaggedColumns paragraphsOf(int pageSize, int... lineCounts) {
-        RaggedColumns x = new RaggedColumns();
-        for (int count : lineCounts) {
-            for (int line = 1; line <= count; line++) {
-                x.insert(x.words(), 30);
-                x.setMark(x.words() - 1, line < count ? 1 : 2);
-            }
-        }
-        x.setPage(pageSize);
-        return x;
-    }
-
-    private static String list(int count, IntUnaryOperator answer) {
-        int[] answers = new int[count];
-        Arrays.setAll(answers, answer);
-        return Arrays.toString(answers);
-    }
-
-    private static String widths(RaggedColumns x) {
-        return list(x.words(), x::wordWidth);
-    }
-
-    private static String marks(RaggedColumns x) {
-        return list(x.words(), x::mark);
-    }
-
-    private static String lineWidths(RaggedColumns x) {
-        return list(x.lines(), x::lineWidth);
-    }
-
-    private static String pageLengths(RaggedColumns x) {
-        return list(x.pages(), x::linesOn);
-    }
-
     /** What can be asked of the state, the buffer and the saved states without a change. */
     private static String view(RaggedColumns x) {
         return x.digest() + " " + x.costFor(30, true) + " " + x.costFor(77, false) + " "
@@ -169,8 +93,8 @@ public final class PromiseTest {
         Check.equal("its step", x.setPenalties(1, 1, 1), 3);
         Check.equal("its page", x.setPage(2), 6);
         Check.equal("its mode", x.setOptimal(false), true);
-        Check.equal("its stair penalty", text("30!,20!,10!,30").cost(), 900 + 1600 + 2500 + 500);
-        Check.equal("its short penalty", text("30!,14").cost(), 900 + 300);
+        Check.equal("its stair penalty", Samples.text("30!,20!,10!,30").cost(), 900 + 1600 + 2500 + 500);
+        Check.equal("its short penalty", Samples.text("30!,14").cost(), 900 + 300);
     }
 
     private static void promise2Insert() {
@@ -181,13 +105,13 @@ public final class PromiseTest {
         x.setMark(1, 2);
         Check.equal("insert between", x.insert(1, 7), 3);
         Check.equal("insert ahead", x.insert(0, 9), 4);
-        Check.equal("widths", widths(x), "[9, 30, 7, 1]");
-        Check.equal("marks stay with their words", marks(x), "[0, 1, 0, 2]");
+        Check.equal("widths", Samples.widths(x), "[9, 30, 7, 1]");
+        Check.equal("marks stay with their words", Samples.marks(x), "[0, 1, 0, 2]");
         refused(x, "insert(5, 1)", INDEX, () -> x.insert(5, 1));
         refused(x, "insert(-1, 0)", INDEX, () -> x.insert(-1, 0));
         refused(x, "insert(0, 0)", ARGUMENT, () -> x.insert(0, 0));
         refused(x, "insert(4, 31)", ARGUMENT, () -> x.insert(4, 31));
-        RaggedColumns full = fullText(30);
+        RaggedColumns full = Samples.fullText(30);
         Check.equal("40 words", full.words(), 40);
         for (int word : FAR) {
             refused(full, "insert far", INDEX, () -> full.insert(word, 31));
@@ -195,17 +119,17 @@ public final class PromiseTest {
         refused(full, "insert(40, 31) when full", ARGUMENT, () -> full.insert(40, 31));
         refused(full, "insert(40, 30) when full", STATE, () -> full.insert(40, 30));
         refused(full, "insert(0, 1) when full", STATE, () -> full.insert(0, 1));
-        undoable("insert", text("5,6!,7/"), y -> y.insert(1, 20));
+        undoable("insert", Samples.text("5,6!,7/"), y -> y.insert(1, 20));
     }
 
     private static void promise3Remove() {
-        RaggedColumns x = text("5!,6,7/,8!");
+        RaggedColumns x = Samples.text("5!,6,7/,8!");
         Check.equal("remove between", x.remove(1), 6);
-        Check.equal("marks stay", marks(x), "[1, 2, 1]");
+        Check.equal("marks stay", Samples.marks(x), "[1, 2, 1]");
         Check.equal("remove last", x.remove(2), 8);
         Check.equal("remove first", x.remove(0), 5);
-        Check.equal("widths", widths(x), "[7]");
-        Check.equal("marks", marks(x), "[2]");
+        Check.equal("widths", Samples.widths(x), "[7]");
+        Check.equal("marks", Samples.marks(x), "[2]");
         refused(x, "remove(1)", INDEX, () -> x.remove(1));
         refused(x, "remove(-1)", INDEX, () -> x.remove(-1));
         Check.equal("remove all", x.remove(0), 7);
@@ -213,47 +137,47 @@ public final class PromiseTest {
         refused(x, "remove(0) of none", INDEX, () -> x.remove(0));
         Check.equal("a new word has no mark of an old one", x.insert(0, 5), 1);
         Check.equal("its mark", x.mark(0), 0);
-        RaggedColumns full = fullText(2);
+        RaggedColumns full = Samples.fullText(2);
         Check.equal("remove(39)", full.remove(39), 2);
         Check.equal("room again", full.insert(39, 4), 40);
-        undoable("remove", text("5!,6,7/,8!"), y -> y.remove(0));
+        undoable("remove", Samples.text("5!,6,7/,8!"), y -> y.remove(0));
     }
 
     private static void promise4SetMark() {
-        RaggedColumns x = text("5,6,7");
+        RaggedColumns x = Samples.text("5,6,7");
         Check.equal("setMark(0, 1)", x.setMark(0, 1), 0);
         Check.equal("setMark(0, 2)", x.setMark(0, 2), 1);
         Check.equal("setMark(0, 0)", x.setMark(0, 0), 2);
         Check.equal("setMark(2, 2)", x.setMark(2, 2), 0);
-        Check.equal("marks", marks(x), "[0, 0, 2]");
+        Check.equal("marks", Samples.marks(x), "[0, 0, 2]");
         refused(x, "setMark(3, 3)", INDEX, () -> x.setMark(3, 3));
         refused(x, "setMark(-1, 0)", INDEX, () -> x.setMark(-1, 0));
         refused(x, "setMark(0, 3)", ARGUMENT, () -> x.setMark(0, 3));
         refused(x, "setMark(0, -1)", ARGUMENT, () -> x.setMark(0, -1));
-        undoable("setMark", text("5!,6,7/,8!"), y -> y.setMark(1, 2));
-        undoable("setMark that changes nothing", text("5!,6"), y -> y.setMark(0, 1));
+        undoable("setMark", Samples.text("5!,6,7/,8!"), y -> y.setMark(1, 2));
+        undoable("setMark that changes nothing", Samples.text("5!,6"), y -> y.setMark(0, 1));
     }
 
     private static void promise5Words() {
         Check.equal("words of none", new RaggedColumns().words(), 0);
-        Check.equal("words", text("5!,6,7/,8!").words(), 4);
-        Check.equal("words of a full text", fullText(1).words(), 40);
+        Check.equal("words", Samples.text("5!,6,7/,8!").words(), 4);
+        Check.equal("words of a full text", Samples.fullText(1).words(), 40);
     }
 
     private static void promise6WordWidth() {
-        RaggedColumns x = text("1,30,10!,20/");
-        Check.equal("widths", widths(x), "[1, 30, 10, 20]");
+        RaggedColumns x = Samples.text("1,30,10!,20/");
+        Check.equal("widths", Samples.widths(x), "[1, 30, 10, 20]");
         refused(x, "wordWidth(4)", INDEX, () -> x.wordWidth(4));
         for (int word : FAR) {
             refused(x, "wordWidth far", INDEX, () -> x.wordWidth(word));
         }
         refused(new RaggedColumns(), "wordWidth(0)", INDEX, () -> new RaggedColumns().wordWidth(0));
-        Check.equal("wordWidth(39)", fullText(17).wordWidth(39), 17);
+        Check.equal("wordWidth(39)", Samples.fullText(17).wordWidth(39), 17);
     }
 
     private static void promise7Mark() {
-        RaggedColumns x = text("1,30!,10/,20");
-        Check.equal("marks", marks(x), "[0, 1, 2, 0]");
+        RaggedColumns x = Samples.text("1,30!,10/,20");
+        Check.equal("marks", Samples.marks(x), "[0, 1, 2, 0]");
         refused(x, "mark(4)", INDEX, () -> x.mark(4));
         for (int word : FAR) {
             refused(x, "mark far", INDEX, () -> x.mark(word));
@@ -261,38 +185,38 @@ public final class PromiseTest {
     }
 
     private static void promise8SetColumn() {
-        RaggedColumns x = text("20,20,20,20");
+        RaggedColumns x = Samples.text("20,20,20,20");
         Check.equal("setColumn(30)", x.setColumn(30), 60);
-        Check.equal("lines of 30", lineWidths(x), "[20, 20, 20, 20]");
+        Check.equal("lines of 30", Samples.lineWidths(x), "[20, 20, 20, 20]");
         Check.equal("setColumn(100)", x.setColumn(100), 30);
-        Check.equal("lines of 100", lineWidths(x), "[86]");
+        Check.equal("lines of 100", Samples.lineWidths(x), "[86]");
         for (int width : new int[] {29, 101, 0, -60, Integer.MIN_VALUE, Integer.MAX_VALUE}) {
             refused(x, "setColumn(" + width + ")", ARGUMENT, () -> x.setColumn(width));
         }
         Check.equal("setColumn again", x.setColumn(86), 100);
-        Check.equal("a line as wide as the column", lineWidths(x), "[86]");
+        Check.equal("a line as wide as the column", Samples.lineWidths(x), "[86]");
         x.setColumn(85);
         Check.equal("a line too wide", x.lines(), 2);
-        undoable("setColumn", text("20,20,20"), y -> y.setColumn(42));
-        undoable("setColumn to what it was", text("20,20,20"), y -> y.setColumn(60));
+        undoable("setColumn", Samples.text("20,20,20"), y -> y.setColumn(42));
+        undoable("setColumn to what it was", Samples.text("20,20,20"), y -> y.setColumn(60));
     }
 
     private static void promise9SetSpace() {
-        RaggedColumns x = text("10,10,10");
+        RaggedColumns x = Samples.text("10,10,10");
         Check.equal("setSpace(1)", x.setSpace(1), 2);
-        Check.equal("with 1", lineWidths(x), "[32]");
+        Check.equal("with 1", Samples.lineWidths(x), "[32]");
         Check.equal("setSpace(5)", x.setSpace(5), 1);
-        Check.equal("with 5", lineWidths(x), "[40]");
+        Check.equal("with 5", Samples.lineWidths(x), "[40]");
         for (int width : new int[] {0, 6, -1, Integer.MIN_VALUE, Integer.MAX_VALUE}) {
             refused(x, "setSpace(" + width + ")", ARGUMENT, () -> x.setSpace(width));
         }
         Check.equal("setSpace again", x.setSpace(5), 5);
-        undoable("setSpace", text("20,20,20"), y -> y.setSpace(1));
+        undoable("setSpace", Samples.text("20,20,20"), y -> y.setSpace(1));
     }
 
     private static void promise10SetPenalties() {
         // Lines of 30, 20, 10 and 14: slack 30, 40 and 50, one stair by steps of 10, a short end.
-        RaggedColumns x = text("30!,20!,10!,14");
+        RaggedColumns x = Samples.text("30!,20!,10!,14");
         Check.equal("setPenalties(10, 9999, 9999)", x.setPenalties(10, 9999, 9999), 3);
         Check.equal("greatest penalties", x.cost(), 5000 + 9999 + 9999);
         Check.equal("setPenalties(11, 1, 2)", x.setPenalties(11, 1, 2), 10);
@@ -308,65 +232,65 @@ public final class PromiseTest {
                     () -> x.setPenalties(a[0], a[1], a[2]));
         }
         Check.equal("the step of before", x.setPenalties(2, 8, 16), 20);
-        undoable("setPenalties", text("30!,20!,10!,14"), y -> y.setPenalties(1, 1, 1));
+        undoable("setPenalties", Samples.text("30!,20!,10!,14"), y -> y.setPenalties(1, 1, 1));
     }
 
     private static void promise11SetPage() {
-        RaggedColumns x = paragraphsOf(6, 1, 1, 1, 1, 1);
+        RaggedColumns x = Samples.paragraphsOf(6, 1, 1, 1, 1, 1);
         Check.equal("setPage(2)", x.setPage(2), 6);
-        Check.equal("pages of 2", pageLengths(x), "[2, 2, 1]");
+        Check.equal("pages of 2", Samples.pageLengths(x), "[2, 2, 1]");
         Check.equal("setPage(20)", x.setPage(20), 2);
-        Check.equal("a page of 20", pageLengths(x), "[5]");
+        Check.equal("a page of 20", Samples.pageLengths(x), "[5]");
         for (int size : new int[] {1, 21, 0, -6, Integer.MIN_VALUE, Integer.MAX_VALUE}) {
             refused(x, "setPage(" + size + ")", ARGUMENT, () -> x.setPage(size));
         }
         Check.equal("setPage again", x.setPage(3), 20);
-        undoable("setPage", text("1!,1!,1!,1"), y -> y.setPage(2));
+        undoable("setPage", Samples.text("1!,1!,1!,1"), y -> y.setPage(2));
     }
 
     private static void promise12SetOptimal() {
-        RaggedColumns x = text("10,10,10,10,10,10");
+        RaggedColumns x = Samples.text("10,10,10,10,10,10");
         Check.equal("setOptimal(false)", x.setOptimal(false), true);
-        Check.equal("greedy lines", lineWidths(x), "[58, 10]");
+        Check.equal("greedy lines", Samples.lineWidths(x), "[58, 10]");
         Check.equal("setOptimal(false) again", x.setOptimal(false), false);
         Check.equal("setOptimal(true)", x.setOptimal(true), false);
-        Check.equal("optimal lines", lineWidths(x), "[46, 22]");
+        Check.equal("optimal lines", Samples.lineWidths(x), "[46, 22]");
         undoable("setOptimal", x, y -> y.setOptimal(false) ? 1 : 0);
         undoable("setOptimal to what it was", x, y -> y.setOptimal(true) ? 1 : 0);
     }
 
     private static void promise13Lines() {
         Check.equal("lines of none", new RaggedColumns().lines(), 0);
-        Check.equal("lines of one word", text("1").lines(), 1);
-        Check.equal("lines of two paragraphs", text("1/,1").lines(), 2);
-        Check.equal("lines with forced breaks", text("1!,1!,1").lines(), 3);
-        Check.equal("a break behind the last word makes no line", text("1,1!").lines(), 1);
-        RaggedColumns wide = fullText(30);
+        Check.equal("lines of one word", Samples.text("1").lines(), 1);
+        Check.equal("lines of two paragraphs", Samples.text("1/,1").lines(), 2);
+        Check.equal("lines with forced breaks", Samples.text("1!,1!,1").lines(), 3);
+        Check.equal("a break behind the last word makes no line", Samples.text("1,1!").lines(), 1);
+        RaggedColumns wide = Samples.fullText(30);
         wide.setColumn(30);
         Check.equal("40 lines", wide.lines(), 40);
         Check.equal("the last of 40 lines", wide.lineWidth(39) + " " + wide.firstWord(39), "30 39");
         Check.equal("the page of the last of 40 lines", wide.pageOf(39), 6);
         Check.equal("the last of 40 words", wide.lineOf(39) + " " + wide.reason(39), "39 1");
-        Check.equal("one line of 40 words", text(100, 1, "1,1").lines(), 1);
-        RaggedColumns narrow = fullText(1);
+        Check.equal("one line of 40 words", Samples.text(100, 1, "1,1").lines(), 1);
+        RaggedColumns narrow = Samples.fullText(1);
         narrow.setSpace(1);
         narrow.setColumn(79);
         Check.equal("40 words in 79", narrow.lines(), 1);
         narrow.setOptimal(false);
         narrow.setColumn(78);
-        Check.equal("40 words in 78", lineWidths(narrow), "[77, 1]");
+        Check.equal("40 words in 78", Samples.lineWidths(narrow), "[77, 1]");
         // Greedy lines take as many words as possible up to each forced break.
-        RaggedColumns mixed = text("10,10!,10,10,10,10,10,10/,5");
+        RaggedColumns mixed = Samples.text("10,10!,10,10,10,10,10,10/,5");
         mixed.setOptimal(false);
-        Check.equal("mixed lines", lineWidths(mixed), "[22, 58, 10, 5]");
+        Check.equal("mixed lines", Samples.lineWidths(mixed), "[22, 58, 10, 5]");
     }
 
     private static void promise14LineOf() {
-        RaggedColumns x = text("10,10!,10,10,10,10,10,10/,5");
+        RaggedColumns x = Samples.text("10,10!,10,10,10,10,10,10/,5");
         x.setOptimal(false);
-        Check.equal("lines of the words", list(9, x::lineOf), "[0, 0, 1, 1, 1, 1, 1, 2, 3]");
+        Check.equal("lines of the words", Samples.list(9, x::lineOf), "[0, 0, 1, 1, 1, 1, 1, 2, 3]");
         x.setOptimal(true);
-        Check.equal("in optimal mode", list(9, x::lineOf), "[0, 0, 1, 1, 1, 1, 2, 2, 3]");
+        Check.equal("in optimal mode", Samples.list(9, x::lineOf), "[0, 0, 1, 1, 1, 1, 2, 2, 3]");
         refused(x, "lineOf(9)", INDEX, () -> x.lineOf(9));
         for (int word : FAR) {
             refused(x, "lineOf far", INDEX, () -> x.lineOf(word));
@@ -374,10 +298,10 @@ public final class PromiseTest {
     }
 
     private static void promise15FirstWord() {
-        RaggedColumns x = text("10,10!,10,10,10,10,10,10/,5");
-        Check.equal("first words", list(4, x::firstWord), "[0, 2, 6, 8]");
+        RaggedColumns x = Samples.text("10,10!,10,10,10,10,10,10/,5");
+        Check.equal("first words", Samples.list(4, x::firstWord), "[0, 2, 6, 8]");
         x.setOptimal(false);
-        Check.equal("in greedy mode", list(4, x::firstWord), "[0, 2, 7, 8]");
+        Check.equal("in greedy mode", Samples.list(4, x::firstWord), "[0, 2, 7, 8]");
         refused(x, "firstWord(4)", INDEX, () -> x.firstWord(4));
         for (int line : FAR) {
             refused(x, "firstWord far", INDEX, () -> x.firstWord(line));
@@ -386,8 +310,8 @@ public final class PromiseTest {
     }
 
     private static void promise16LineWidth() {
-        RaggedColumns x = text(60, 5, "30,25,1/,7!,8,9");
-        Check.equal("line widths", lineWidths(x), "[60, 1, 7, 22]");
+        RaggedColumns x = Samples.text(60, 5, "30,25,1/,7!,8,9");
+        Check.equal("line widths", Samples.lineWidths(x), "[60, 1, 7, 22]");
         refused(x, "lineWidth(4)", INDEX, () -> x.lineWidth(4));
         for (int line : FAR) {
             refused(x, "lineWidth far", INDEX, () -> x.lineWidth(line));
@@ -395,16 +319,17 @@ public final class PromiseTest {
     }
 
     private static void promise17StairAt() {
-        RaggedColumns x = text("30!,27!,24!,27!,30!,27!,29!,30");
-        Check.equal("stairs of 3", list(8, x::stairAt), "[0, -1, 0, 1, 0, 0, 0, 0]");
+        RaggedColumns x = Samples.text("30!,27!,24!,27!,30!,27!,29!,30");
+        Check.equal("stairs of 3", Samples.list(8, x::stairAt), "[0, -1, 0, 1, 0, 0, 0, 0]");
         x.setPenalties(4, 1, 1);
-        Check.equal("stairs of 4", list(8, x::stairAt), "[0, 0, 0, 0, 0, 0, 0, 0]");
+        Check.equal("stairs of 4", Samples.list(8, x::stairAt), "[0, 0, 0, 0, 0, 0, 0, 0]");
         x.setPenalties(1, 1, 1);
-        Check.equal("the last line is in no stair", list(8, x::stairAt), "[0, -1, 0, 1, 0, 0, 0, 0]");
-        RaggedColumns parted = text("30!,20/,10!,5!,20/,9!,6!,3!,30");
-        Check.equal("no stair over two paragraphs", list(9, parted::stairAt),
+        Check.equal("the last line is in no stair",
+                Samples.list(8, x::stairAt), "[0, -1, 0, 1, 0, 0, 0, 0]");
+        RaggedColumns parted = Samples.text("30!,20/,10!,5!,20/,9!,6!,3!,30");
+        Check.equal("no stair over two paragraphs", Samples.list(9, parted::stairAt),
                 "[0, 0, 0, 0, 0, 0, -1, 0, 0]");
-        Check.equal("successive stairs", list(5, text("5!,10!,15!,20!,30")::stairAt),
+        Check.equal("successive stairs", Samples.list(5, Samples.text("5!,10!,15!,20!,30")::stairAt),
                 "[0, 1, 1, 0, 0]");
         refused(x, "stairAt(8)", INDEX, () -> x.stairAt(8));
         for (int line : FAR) {
@@ -413,16 +338,16 @@ public final class PromiseTest {
     }
 
     private static void promise18Reason() {
-        RaggedColumns x = text("30,28!,10,10,10,10,10,10/,30!,30,30!");
-        Check.equal("reasons in optimal mode", list(11, x::reason),
+        RaggedColumns x = Samples.text("30,28!,10,10,10,10,10,10/,30!,30,30!");
+        Check.equal("reasons in optimal mode", Samples.list(11, x::reason),
                 "[0, 2, 0, 0, 0, 4, 0, 1, 2, 3, 1]");
         x.setOptimal(false);
-        Check.equal("reasons in greedy mode", list(11, x::reason),
+        Check.equal("reasons in greedy mode", Samples.list(11, x::reason),
                 "[0, 2, 0, 0, 0, 0, 3, 1, 2, 3, 1]");
         x.setOptimal(true);
         x.setColumn(58);
         Check.equal("the next word would just fit", x.reason(5), 4);
-        Check.equal("a mark ahead of the width", list(2, text("30!,30")::reason), "[2, 1]");
+        Check.equal("a mark ahead of the width", Samples.list(2, Samples.text("30!,30")::reason), "[2, 1]");
         refused(x, "reason(11)", INDEX, () -> x.reason(11));
         for (int word : FAR) {
             refused(x, "reason far", INDEX, () -> x.reason(word));
@@ -431,26 +356,26 @@ public final class PromiseTest {
 
     private static void promise19Paragraphs() {
         Check.equal("paragraphs of none", new RaggedColumns().paragraphs(), 0);
-        Check.equal("one without a mark", text("5,6").paragraphs(), 1);
-        Check.equal("one with a mark", text("5,6/").paragraphs(), 1);
-        Check.equal("a break ends none", text("5!,6").paragraphs(), 1);
-        Check.equal("several", text("5/,6/,7,8/,9").paragraphs(), 4);
-        RaggedColumns full = paragraphsOf(6, 1, 1, 1, 1, 1, 1, 1, 1, 1, 1, 1, 1, 1, 1, 1, 1, 1, 1, 1,
+        Check.equal("one without a mark", Samples.text("5,6").paragraphs(), 1);
+        Check.equal("one with a mark", Samples.text("5,6/").paragraphs(), 1);
+        Check.equal("a break ends none", Samples.text("5!,6").paragraphs(), 1);
+        Check.equal("several", Samples.text("5/,6/,7,8/,9").paragraphs(), 4);
+        RaggedColumns full = Samples.paragraphsOf(6, 1, 1, 1, 1, 1, 1, 1, 1, 1, 1, 1, 1, 1, 1, 1, 1, 1, 1, 1,
                 1, 1, 1, 1, 1, 1, 1, 1, 1, 1, 1, 1, 1, 1, 1, 1, 1, 1, 1, 1, 1);
         Check.equal("40 paragraphs", full.paragraphs(), 40);
     }
 
     private static void promise20Stairs() {
         Check.equal("stairs of none", new RaggedColumns().stairs(), 0);
-        Check.equal("two stairs", text("5!,10!,15!,20!,30").stairs(), 2);
-        Check.equal("up and down", text("30!,27!,24!,27!,30!,27!,29!,30").stairs(), 2);
-        Check.equal("not with the last line", text("5!,10!,15").stairs(), 0);
-        Check.equal("in several paragraphs", text("5!,9!,15!,2/,30!,20!,10!,1").stairs(), 2);
+        Check.equal("two stairs", Samples.text("5!,10!,15!,20!,30").stairs(), 2);
+        Check.equal("up and down", Samples.text("30!,27!,24!,27!,30!,27!,29!,30").stairs(), 2);
+        Check.equal("not with the last line", Samples.text("5!,10!,15").stairs(), 0);
+        Check.equal("in several paragraphs", Samples.text("5!,9!,15!,2/,30!,20!,10!,1").stairs(), 2);
     }
 
     /** The answers that need lines or pages are asked first behind a change, each for itself. */
     private static void promise20StairsBehindChanges() {
-        RaggedColumns x = text("30!,20!,10!,1");
+        RaggedColumns x = Samples.text("30!,20!,10!,1");
         Check.equal("stairs behind load", x.stairs(), 1);
         x.setPenalties(11, 1, 1);
         Check.equal("stairs behind a change", x.stairs(), 0);
@@ -460,17 +385,18 @@ public final class PromiseTest {
 
     private static void promise21Cost() {
         Check.equal("cost of none", new RaggedColumns().cost(), 0);
-        Check.equal("one line costs nothing", text("1").cost(), 0);
-        Check.equal("a last line is short below a quarter", text("30!,14").cost(), 900 + 300);
-        Check.equal("a last line of a quarter", text("30!,15").cost(), 900);
-        Check.equal("each paragraph for itself", text("30!,14/,1/,20!,1").cost(), 1200 + 1600 + 300);
-        Check.equal("two stairs", text("5!,10!,15!,20!,30").cost(),
+        Check.equal("one line costs nothing", Samples.text("1").cost(), 0);
+        Check.equal("a last line is short below a quarter", Samples.text("30!,14").cost(), 900 + 300);
+        Check.equal("a last line of a quarter", Samples.text("30!,15").cost(), 900);
+        Check.equal("each paragraph for itself",
+                Samples.text("30!,14/,1/,20!,1").cost(), 1200 + 1600 + 300);
+        Check.equal("two stairs", Samples.text("5!,10!,15!,20!,30").cost(),
                 55 * 55 + 50 * 50 + 45 * 45 + 40 * 40 + 2 * 500);
-        RaggedColumns x = text("10,10,10,10,10,10");
+        RaggedColumns x = Samples.text("10,10,10,10,10,10");
         Check.equal("optimal", x.cost(), 14 * 14);
         x.setOptimal(false);
         Check.equal("greedy", x.cost(), 2 * 2 + 300);
-        RaggedColumns dear = fullText(1);
+        RaggedColumns dear = Samples.fullText(1);
         for (int word = 0; word < 20; word++) {
             dear.setMark(word, 1);
         }
@@ -478,42 +404,42 @@ public final class PromiseTest {
         dear.setPenalties(20, 9999, 9999);
         Check.equal("wide columns", dear.cost(), 20 * 99 * 99);
         // With a stair of 29, 25, 21, 17 the lines have less slack than without it.
-        RaggedColumns stair = text(30, 1, "14,14,12,12,10,10,8,8,30,5");
-        Check.equal("rather slack than a stair", lineWidths(stair), "[14, 27, 23, 28, 30, 5]");
+        RaggedColumns stair = Samples.text(30, 1, "14,14,12,12,10,10,8,8,30,5");
+        Check.equal("rather slack than a stair", Samples.lineWidths(stair), "[14, 27, 23, 28, 30, 5]");
         stair.setPenalties(3, 0, 0);
-        Check.equal("rather a stair than slack", lineWidths(stair), "[29, 25, 21, 17, 30, 5]");
+        Check.equal("rather a stair than slack", Samples.lineWidths(stair), "[29, 25, 21, 17, 30, 5]");
     }
 
     private static void promise21CostAmongEqualLayouts() {
         // Five lines of 23, 21, 25, 28 with a stair, or six of 26, 18, 16, 7, 28: both cost 889.
-        RaggedColumns lines = text(30, 2, "23,1,10,6,16,7,28,15");
+        RaggedColumns lines = Samples.text(30, 2, "23,1,10,6,16,7,28,15");
         lines.setPenalties(3, 730, 0);
         Check.equal("equal costs", lines.cost(), 889);
-        Check.equal("the fewest lines", lineWidths(lines), "[23, 21, 25, 28, 15]");
+        Check.equal("the fewest lines", Samples.lineWidths(lines), "[23, 21, 25, 28, 15]");
         // A slack of 10 in the first line, or none and a short last line: both cost 100.
-        RaggedColumns first = text(40, 1, "30,9,3");
+        RaggedColumns first = Samples.text(40, 1, "30,9,3");
         first.setPenalties(3, 500, 100);
-        Check.equal("most words in the first line", lineWidths(first), "[40, 3]");
+        Check.equal("most words in the first line", Samples.lineWidths(first), "[40, 3]");
         first.setPenalties(3, 500, 101);
-        Check.equal("a cost more decides", lineWidths(first), "[30, 13]");
-        RaggedColumns second = text(40, 2, "10!,30,8,7");
+        Check.equal("a cost more decides", Samples.lineWidths(first), "[30, 13]");
+        RaggedColumns second = Samples.text(40, 2, "10!,30,8,7");
         second.setPenalties(3, 500, 100);
-        Check.equal("most words in the second line", lineWidths(second), "[10, 40, 7]");
+        Check.equal("most words in the second line", Samples.lineWidths(second), "[10, 40, 7]");
     }
 
     private static void promise22Pages() {
         Check.equal("pages of none", new RaggedColumns().pages(), 0);
-        Check.equal("a page for one line", text("1").pages(), 1);
-        Check.equal("a full page", paragraphsOf(6, 6).pages(), 1);
-        Check.equal("a line more", paragraphsOf(6, 7).pages(), 2);
-        Check.equal("40 lines by 2", paragraphsOf(2, 40).pages(), 20);
-        Check.equal("39 lines by 2", paragraphsOf(2, 39).pages(), 20);
-        Check.equal("40 lines by 20", paragraphsOf(20, 40).pages(), 2);
+        Check.equal("a page for one line", Samples.text("1").pages(), 1);
+        Check.equal("a full page", Samples.paragraphsOf(6, 6).pages(), 1);
+        Check.equal("a line more", Samples.paragraphsOf(6, 7).pages(), 2);
+        Check.equal("40 lines by 2", Samples.paragraphsOf(2, 40).pages(), 20);
+        Check.equal("39 lines by 2", Samples.paragraphsOf(2, 39).pages(), 20);
+        Check.equal("40 lines by 20", Samples.paragraphsOf(20, 40).pages(), 2);
     }
 
     private static void promise23PageOf() {
-        RaggedColumns x = paragraphsOf(3, 7);
-        Check.equal("pages of lines", list(7, x::pageOf), "[0, 0, 0, 1, 1, 2, 2]");
+        RaggedColumns x = Samples.paragraphsOf(3, 7);
+        Check.equal("pages of lines", Samples.list(7, x::pageOf), "[0, 0, 0, 1, 1, 2, 2]");
         refused(x, "pageOf(7)", INDEX, () -> x.pageOf(7));
         for (int line : FAR) {
             refused(x, "pageOf far", INDEX, () -> x.pageOf(line));
@@ -522,16 +448,22 @@ public final class PromiseTest {
     }
 
     private static void promise24LinesOn() {
-        Check.equal("no last line alone ahead", pageLengths(paragraphsOf(3, 7)), "[3, 2, 2]");
-        Check.equal("no first line alone behind", pageLengths(paragraphsOf(3, 2, 3)), "[2, 3]");
-        Check.equal("one less only once", pageLengths(paragraphsOf(2, 3, 2)), "[1, 2, 2]");
-        Check.equal("one less only once, for two reasons", pageLengths(paragraphsOf(2, 1, 2, 1)),
+        Check.equal("no last line alone ahead",
+                Samples.pageLengths(Samples.paragraphsOf(3, 7)), "[3, 2, 2]");
+        Check.equal("no first line alone behind",
+                Samples.pageLengths(Samples.paragraphsOf(3, 2, 3)), "[2, 3]");
+        Check.equal("one less only once", Samples.pageLengths(Samples.paragraphsOf(2, 3, 2)), "[1, 2, 2]");
+        Check.equal("one less only once, for two reasons",
+                Samples.pageLengths(Samples.paragraphsOf(2, 1, 2, 1)),
                 "[1, 2, 1]");
-        Check.equal("single lines may stand anywhere", pageLengths(paragraphsOf(2, 1, 1, 1, 1, 1)),
+        Check.equal("single lines may stand anywhere",
+                Samples.pageLengths(Samples.paragraphsOf(2, 1, 1, 1, 1, 1)),
                 "[2, 2, 1]");
-        Check.equal("no line less if none is left", pageLengths(paragraphsOf(4, 3, 1)), "[4]");
-        Check.equal("none less ahead of the end", pageLengths(paragraphsOf(4, 2, 2, 2)), "[4, 2]");
-        RaggedColumns x = paragraphsOf(3, 7);
+        Check.equal("no line less if none is left",
+                Samples.pageLengths(Samples.paragraphsOf(4, 3, 1)), "[4]");
+        Check.equal("none less ahead of the end",
+                Samples.pageLengths(Samples.paragraphsOf(4, 2, 2, 2)), "[4, 2]");
+        RaggedColumns x = Samples.paragraphsOf(3, 7);
         refused(x, "linesOn(3)", INDEX, () -> x.linesOn(3));
         for (int page : FAR) {
             refused(x, "linesOn far", INDEX, () -> x.linesOn(page));
@@ -542,29 +474,30 @@ public final class PromiseTest {
     private static void promise25Widows() {
         // By the words on pages none can come about: a page one line shorter moves a line behind.
         Check.equal("widows of none", new RaggedColumns().widows(), 0);
-        Check.equal("a single line is no widow", paragraphsOf(2, 1, 1, 1, 1).widows(), 0);
-        Check.equal("the first page has none", paragraphsOf(2, 3, 3, 1, 2).widows(), 0);
+        Check.equal("a single line is no widow", Samples.paragraphsOf(2, 1, 1, 1, 1).widows(), 0);
+        Check.equal("the first page has none", Samples.paragraphsOf(2, 3, 3, 1, 2).widows(), 0);
         for (int size = 2; size < 20; size++) {
-            Check.equal("widows", paragraphsOf(size, 2, 3, 1, 3, 3, 2, 7, 3, 2, 1, 4, 3).widows(), 0);
+            Check.equal("widows",
+                    Samples.paragraphsOf(size, 2, 3, 1, 3, 3, 2, 7, 3, 2, 1, 4, 3).widows(), 0);
         }
     }
 
     private static void promise26Orphans() {
         Check.equal("orphans of none", new RaggedColumns().orphans(), 0);
-        Check.equal("an orphan", paragraphsOf(2, 3).orphans(), 1);
-        Check.equal("two orphans", paragraphsOf(2, 3, 3, 1).orphans(), 2);
-        Check.equal("a single line is no orphan", paragraphsOf(2, 1, 1, 1, 1).orphans(), 0);
-        Check.equal("the last page has none", paragraphsOf(2, 1, 1).orphans(), 0);
-        RaggedColumns x = paragraphsOf(2, 3);
+        Check.equal("an orphan", Samples.paragraphsOf(2, 3).orphans(), 1);
+        Check.equal("two orphans", Samples.paragraphsOf(2, 3, 3, 1).orphans(), 2);
+        Check.equal("a single line is no orphan", Samples.paragraphsOf(2, 1, 1, 1, 1).orphans(), 0);
+        Check.equal("the last page has none", Samples.paragraphsOf(2, 1, 1).orphans(), 0);
+        RaggedColumns x = Samples.paragraphsOf(2, 3);
         x.remove(0);
         Check.equal("orphans behind a change", x.orphans(), 0);
         x.undo();
         Check.equal("orphans behind undo", x.orphans(), 1);
-        Check.equal("none with larger pages", paragraphsOf(3, 3, 3, 1).orphans(), 0);
+        Check.equal("none with larger pages", Samples.paragraphsOf(3, 3, 3, 1).orphans(), 0);
     }
 
     private static void promise27CostFor() {
-        RaggedColumns x = text("10,10,10,10,10,10");
+        RaggedColumns x = Samples.text("10,10,10,10,10,10");
         Check.equal("costFor(60, true)", x.costFor(60, true), 196);
         Check.equal("costFor(60, false)", x.costFor(60, false), 304);
         Check.equal("costFor(30, true)", x.costFor(30, true), 64 + 64);
@@ -584,7 +517,7 @@ public final class PromiseTest {
     }
 
     private static void promise28BestColumn() {
-        RaggedColumns x = text("10,10,10,10,10,10");
+        RaggedColumns x = Samples.text("10,10,10,10,10,10");
         Check.equal("the least of several", x.bestColumn(30, 100), 34);
         Check.equal("one width", x.bestColumn(60, 60), 60);
         Check.equal("the greatest width", x.bestColumn(100, 100), 100);
@@ -602,24 +535,25 @@ public final class PromiseTest {
             refused(x, "bestColumn" + Arrays.toString(a), ARGUMENT, () -> x.bestColumn(a[0], a[1]));
         }
         // Four words of 27, 22, 30 and 22 cost 441 in columns of 38 and 51, and more between.
-        Check.equal("the least of two that cost something", text("27,22,30,22").bestColumn(38, 51), 38);
+        Check.equal("the least of two that cost something",
+                Samples.text("27,22,30,22").bestColumn(38, 51), 38);
         Check.equal("bestColumn of none", new RaggedColumns().bestColumn(45, 77), 45);
     }
 
     private static void promise29Saving() {
-        RaggedColumns x = text("10,10,10,10,10,10");
+        RaggedColumns x = Samples.text("10,10,10,10,10,10");
         Check.equal("saving", x.saving(), 304 - 196);
         x.setOptimal(false);
         Check.equal("saving in greedy mode", x.saving(), 304 - 196);
         Check.equal("the mode stays", x.setOptimal(true), false);
         Check.equal("saving of all paragraphs",
-                text("10,10,10,10,10,10/,10,10,10,10,10,10").saving(), 2 * (304 - 196));
-        Check.equal("no saving", text("30!,30").saving(), 0);
+                Samples.text("10,10,10,10,10,10/,10,10,10,10,10,10").saving(), 2 * (304 - 196));
+        Check.equal("no saving", Samples.text("30!,30").saving(), 0);
         Check.equal("saving of none", new RaggedColumns().saving(), 0);
     }
 
     private static void promise30CostIfMarked() {
-        RaggedColumns x = text("10,10,10,10,10,10");
+        RaggedColumns x = Samples.text("10,10,10,10,10,10");
         Check.equal("as it is", x.costIfMarked(0, 0), 196);
         Check.equal("a break", x.costIfMarked(0, 1), 50 * 50);
         Check.equal("a paragraph's end", x.costIfMarked(0, 2), 0);
@@ -629,7 +563,7 @@ public final class PromiseTest {
         Check.equal("a paragraph in greedy mode", x.costIfMarked(3, 2), 0);
         x.setMark(0, 2);
         Check.equal("a mark less", x.costIfMarked(0, 0), 304);
-        Check.equal("costIfMarked changes nothing", marks(x), "[2, 0, 0, 0, 0, 0]");
+        Check.equal("costIfMarked changes nothing", Samples.marks(x), "[2, 0, 0, 0, 0, 0]");
         Check.equal("the cost stays", x.cost(), 0);
         refused(x, "costIfMarked(6, 3)", INDEX, () -> x.costIfMarked(6, 3));
         refused(x, "costIfMarked(-1, 0)", INDEX, () -> x.costIfMarked(-1, 0));
@@ -655,15 +589,15 @@ public final class PromiseTest {
     }
 
     private static void promise32ClearText() {
-        RaggedColumns x = typed("5,6");
+        RaggedColumns x = Samples.typed("5,6");
         Check.equal("clearText", x.clearText(), 3);
         Check.equal("clearText again", x.clearText(), 0);
         Check.equal("clearText saves no state", x.savedStates(), 0);
         refused(x, "load of a cleared buffer", ARGUMENT, x::load);
-        type(x, "7/");
+        Samples.type(x, "7/");
         x.load();
-        Check.equal("nothing of before", widths(x) + marks(x), "[7][2]");
-        type(x, "8");
+        Check.equal("nothing of before", Samples.widths(x) + Samples.marks(x), "[7][2]");
+        Samples.type(x, "8");
         x.undo();
         Check.equal("undo leaves the buffer", x.clearText(), 1);
     }
@@ -674,7 +608,7 @@ public final class PromiseTest {
         String[] right = {"1", "2", "3", "9", "10", "19", "20", "29", "30", "5,", "5!", "5/", "5!,",
             "5/,", "12!,30/,1", longest};
         for (String buffer : right) {
-            Check.equal("no error in " + buffer, typed(buffer).firstError(), buffer.length());
+            Check.equal("no error in " + buffer, Samples.typed(buffer).firstError(), buffer.length());
         }
         Object[][] wrong = {{"0", 0}, {",", 0}, {"!", 0}, {"/", 0}, {"x", 0}, {"05", 0}, {"31", 1},
             {"39", 1}, {"40", 1}, {"99", 1}, {"100", 2}, {"300", 2}, {"5!!", 2}, {"5//", 2},
@@ -682,46 +616,46 @@ public final class PromiseTest {
             {"5-", 1}, {"5.", 1}, {"5:", 1}, {"5,31,x", 3}, {"x5,6", 0}, {"~", 0}, {"5!,6\"", 4},
             {longest.substring(0, 59) + "x", 59}};
         for (Object[] row : wrong) {
-            Check.equal("the error in " + row[0], typed((String) row[0]).firstError(), row[1]);
+            Check.equal("the error in " + row[0], Samples.typed((String) row[0]).firstError(), row[1]);
         }
-        RaggedColumns x = typed("5,6!,7/");
+        RaggedColumns x = Samples.typed("5,6!,7/");
         x.firstError();
         Check.equal("firstError changes nothing", x.clearText(), 7);
     }
 
     private static void promise34Load() {
-        RaggedColumns x = typed("5!,17/,30,1");
+        RaggedColumns x = Samples.typed("5!,17/,30,1");
         Check.equal("load", x.load(), 4);
-        Check.equal("widths", widths(x), "[5, 17, 30, 1]");
-        Check.equal("marks", marks(x), "[1, 2, 0, 0]");
+        Check.equal("widths", Samples.widths(x), "[5, 17, 30, 1]");
+        Check.equal("marks", Samples.marks(x), "[1, 2, 0, 0]");
         Check.equal("load saves one state", x.savedStates(), 1);
         Check.equal("load empties the buffer", x.clearText(), 0);
-        type(x, "9/");
+        Samples.type(x, "9/");
         Check.equal("load behind", x.load(), 5);
         Check.equal("the last word", x.wordWidth(4) + " " + x.mark(4), "9 2");
         refused(x, "load of nothing", ARGUMENT, x::load);
         for (String buffer : new String[] {"5,", "0", "31", "5!!", "5,,6", "x", ",5", "5!,"}) {
-            RaggedColumns y = typed(buffer);
+            RaggedColumns y = Samples.typed(buffer);
             refused(y, "load of " + buffer, ARGUMENT, y::load);
             Check.equal("the buffer stays", y.clearText(), buffer.length());
         }
         promise34LoadUpToFortyWords();
-        undoable("load", typed("5!,17/"), y -> y.load() + y.append('5') + y.append('!')
+        undoable("load", Samples.typed("5!,17/"), y -> y.load() + y.append('5') + y.append('!')
                 + y.append(',') + y.append('1') + y.append('7') + y.append('/'));
     }
 
     private static void promise34LoadUpToFortyWords() {
         String thirty = "1,".repeat(29) + "1";
-        RaggedColumns x = typed(thirty);
+        RaggedColumns x = Samples.typed(thirty);
         Check.equal("load of 30 words", x.load(), 30);
-        type(x, thirty.substring(0, 21));
+        Samples.type(x, thirty.substring(0, 21));
         refused(x, "load of 11 words more", STATE, x::load);
         Check.equal("the buffer stays", x.clearText(), 21);
-        type(x, thirty.substring(0, 19));
+        Samples.type(x, thirty.substring(0, 19));
         Check.equal("load of 10 words more", x.load(), 40);
-        type(x, "1,");
+        Samples.type(x, "1,");
         refused(x, "load of a wrong text when full", ARGUMENT, x::load);
-        type(x, "1");
+        Samples.type(x, "1");
         refused(x, "load when full", STATE, x::load);
     }
 
@@ -739,7 +673,7 @@ public final class PromiseTest {
                     views.get(left + 1));
         }
         refused(x, "undo of the oldest that was discarded", STATE, x::undo);
-        Check.equal("what stays", widths(x), "[20]");
+        Check.equal("what stays", Samples.widths(x), "[20]");
         Check.equal("a change behind undo", x.insert(0, 9) + x.savedStates(), 3);
         promise35UndoSettings();
     }
@@ -757,7 +691,7 @@ public final class PromiseTest {
         x.setPenalties(3, 500, 300);
         Check.equal("the settings of before", x.setColumn(60) + " " + x.setSpace(2) + " "
                 + x.setPage(6) + " " + x.setOptimal(true), "60 2 6 true");
-        RaggedColumns y = text("30!,20!,10!,14");
+        RaggedColumns y = Samples.text("30!,20!,10!,14");
         y.setPenalties(20, 1, 1);
         y.undo();
         Check.equal("the penalties of before", y.cost(), 5000 + 500 + 300);
@@ -774,7 +708,7 @@ public final class PromiseTest {
         x.setPage(2);
         x.setPage(2);
         Check.equal("a seventh state", x.savedStates(), 6);
-        RaggedColumns y = text("5,6");
+        RaggedColumns y = Samples.text("5,6");
         Check.answer(() -> y.insert(9, 1));
         Check.answer(() -> y.remove(9));
         Check.answer(() -> y.setMark(0, 3));
@@ -791,7 +725,7 @@ public final class PromiseTest {
             empty = 31 * empty;
         }
         Check.equal("digest of none", new RaggedColumns().digest(), empty);
-        RaggedColumns x = text("30!,20!,10!,14/,10,10,10,10,10,10/,5");
+        RaggedColumns x = Samples.text("30!,20!,10!,14/,10,10,10,10,10,10/,5");
         Check.equal("digest", x.digest(), digestOf(x));
         x.setPage(2);
         Check.equal("digest of small pages", x.digest(), digestOf(x));
