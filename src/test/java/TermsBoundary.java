@@ -339,6 +339,9 @@ final class TermsBoundary {
         Check.test(p + "and with as many words in the second line the most in the third",
                 () -> Check.equal("lines", optimal(30, 1, 500, 300, "25,23,23,3,23,24"),
                         "[25, 23, 27, 23, 24]"));
+        Check.test(p + "and with as many lines a stair without a penalty does not count",
+                // Behind 13 lines of 25 and 19, or of 19 and 25 with a stair.
+                () -> Check.equal("lines", optimal(30, 1, 0, 300, "13!,19,5,19,11,6"), "[13, 25, 19, 18]"));
         Check.test(p + "the one with the most words in the first line of 40 words", () -> {
             RaggedColumns x = Samples.fullText(1);
             x.setSpace(1);
@@ -362,6 +365,8 @@ final class TermsBoundary {
                 () -> Check.equal("lines", dearStairs(4, "20,8,15,11,6"), "[20, 24, 18]"));
         Check.test(p + "of two lines, the second one narrower",
                 () -> Check.equal("lines", dearStairs(6, "19,5,19,11,6"), "[25, 19, 18]"));
+        Check.test(p + "of two lines, the second one narrower, behind a forced break",
+                () -> Check.equal("lines", dearStairs(3, "30!,20,8,15,11,6"), "[30, 20, 24, 18]"));
         Check.test(p + "with the last line as the third one",
                 () -> Check.equal("lines", dearStairs(1, "19,5,19,11,6"), "[25, 19, 18]"));
         Check.test(p + "with the only line of the paragraph before",
